@@ -10,9 +10,12 @@ public final class BoardTest {
         faultIll();
         faultChild();
         faultChildOverScenes();
+        faultManyChildren();
         faultBound();
+        faultBoundToMany();
         faultBoundShotOrOmitted();
         faultTooLong();
+        faultsToTheMinute();
         faultsSum();
         take();
         lunch();
@@ -21,6 +24,7 @@ public final class BoardTest {
         fillInStoryOrder();
         fillFreed();
         fillLeaves();
+        fillGoesOn();
         fillSparesFaultless();
         fillTriesOnce();
         fillFromNow();
@@ -164,6 +168,28 @@ public final class BoardTest {
         Check.due("the other does not", x.ofScene(1, 4), 0);
     }
 
+    private static void faultManyChildren() {
+        Stripboard x = new Stripboard();
+        x.place(0);
+        for (int i = 0; i < 3; i++) x.person(0, 100, 31, i != 1);
+        for (int i = 0; i < 3; i++) {
+            x.scene(i - 1, 0, true, true, 10);
+            x.needs(i, 1 << i);
+            x.put(i, 0, i);
+        }
+        for (int i = 0; i < 3; i++) Check.due("short", x.ofScene(i, 4), 0);
+        x.needs(0, 5);
+        Check.due("the last of both is behind", x.ofScene(0, 4), 8);
+        x.needs(2, 5);
+        for (int i = 0; i < 3; i++) Check.due("both children", x.ofScene(i, 4), i == 1 ? 0 : 8);
+        x.needs(1, 1);
+        Check.due("just the first of both", x.ofScene(1, 4), 8);
+        x.needs(1, 2);
+        x.needs(0, 1);
+        x.needs(2, 1);
+        for (int i = 0; i < 3; i++) Check.due("the first child", x.ofScene(i, 4), i == 1 ? 0 : 8);
+    }
+
     private static void faultBound() {
         Stripboard x = with(3);
         x.bind(0, 1);
@@ -184,6 +210,18 @@ public final class BoardTest {
         x.bind(0, 2);
         Check.due("one of two", x.ofScene(0, 4), 16);
         Check.due("the other one is bound to nothing", x.ofScene(1, 4), 0);
+    }
+
+    private static void faultBoundToMany() {
+        Stripboard x = with(5);
+        for (int i = 0; i < 4; i++) x.bind(4, i);
+        for (int i = 0; i < 3; i++) x.put(i, 5, i);
+        Check.due("one is off", x.put(4, 5, 3), 16);
+        x.put(3, 5, 0);
+        Check.due("all ahead on the same", x.ofScene(4, 4), 0);
+        x.take(2);
+        x.put(2, 5, 4);
+        Check.due("one is behind", x.ofScene(4, 4), 16);
     }
 
     private static void faultBoundShotOrOmitted() {
@@ -218,6 +256,30 @@ public final class BoardTest {
         Check.due("from the start on", x.ofScene(0, 4), 32);
         x.take(2);
         Check.due("from the start on", x.ofScene(0, 4), 0);
+    }
+
+    /** Scenes that were shot last to the minute. */
+    private static void faultsToTheMinute() {
+        Stripboard x = with(0);
+        x.scene(NONE, 0, true, false, 1);
+        x.scene(0, 0, true, true, 1);
+        x.put(0, 0, 0);
+        x.shoot(0, 570);
+        Check.due("ends at 1080", x.ofScene(0, 4), 0);
+        x.next();
+        x.put(1, 1, 0);
+        x.shoot(1, 690);
+        Check.due("720 minutes", x.ofScene(1, 4), 0);
+        Stripboard y = with(0);
+        y.scene(NONE, 0, true, false, 1);
+        y.scene(0, 0, true, true, 1);
+        y.put(0, 0, 0);
+        y.shoot(0, 571);
+        Check.due("ends at 1081", y.ofScene(0, 4), 2);
+        y.next();
+        y.put(1, 1, 0);
+        y.shoot(1, 691);
+        Check.due("721 minutes", y.ofScene(1, 4), 32);
     }
 
     private static void faultsSum() {
@@ -353,6 +415,15 @@ public final class BoardTest {
         x.ill(2, 29, false);
         Check.due("the last day", x.fill(), 2);
         row("the last day", x, 29, 0, 1);
+    }
+
+    /** Two that find no day do not keep others from being tried. */
+    private static void fillGoesOn() {
+        Stripboard x = with(6);
+        for (int i = 0; i < 5; i += 2) x.needs(i, 4);
+        for (int day = 0; day < 30; day++) x.ill(2, day, true);
+        Check.due("three of six", x.fill(), 3);
+        row("the others", x, 0, 1, 3, 5);
     }
 
     /** A day whose scenes would get a fault is passed over; those that had some may get others. */

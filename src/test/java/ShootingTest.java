@@ -21,6 +21,7 @@ public final class ShootingTest {
         payRoundsEach();
         payRefusals();
         cost();
+        costOfPlaces();
         Check.end("ShootingTest");
     }
 
@@ -285,5 +286,22 @@ public final class ShootingTest {
         Check.due("with what they have besides", x.cost(), 2910);
         x.omit(3);
         Check.due("omitted", x.cost(), 1910);
+    }
+
+    private static void costOfPlaces() {
+        Stripboard x = new Stripboard();
+        for (int i = 0; i < 6; i++) x.place(i + 1);
+        for (int i = 0; i < 12; i++) x.scene(i - 1, i / 2, true, true, 1);
+        int sum = 0;
+        for (int i = 0; i < 12; i++) {
+            x.put(i, i / 2, 0);
+            sum += i % 2 == 0 ? i / 2 + 1 : 0;
+            Check.due("once a day, by scene " + i, x.cost(), sum);
+        }
+        x.take(1);
+        x.put(1, 29, 0);
+        Check.due("the last day", x.cost(), sum + 1);
+        x.next();
+        Check.due("not owed ones", x.cost(), sum);
     }
 }

@@ -16,6 +16,7 @@ public final class StoryTest {
         labels();
         needs();
         looks();
+        nothingIsWantedAtFirst();
         looksInStoryOrder();
         clashes();
         bind();
@@ -208,6 +209,14 @@ public final class StoryTest {
         Check.refused("thing -1", Check.INDEX, () -> x.look(0, -1, true, 0));
         Check.refused("scene 3", Check.INDEX, () -> x.look(3, 0, true, 0));
         Check.refused("scene -1", Check.INDEX, () -> x.look(-1, 0, true, 0));
+    }
+
+    private static void nothingIsWantedAtFirst() {
+        Stripboard x = with(3);
+        for (int thing = 0; thing < 4; thing++) Check.due("left", x.look(0, thing, false, 1 + thing), 0);
+        for (int thing = 0; thing < 4; thing++) Check.due("wanted", x.look(2, thing, true, 1 + thing), 0);
+        for (int thing = 0; thing < 4; thing++) Check.due("not wanted by the other", x.clashes(1), false);
+        Check.due("0 is another look", x.look(1, 3, true, 0), 1);
     }
 
     private static void looksInStoryOrder() {
