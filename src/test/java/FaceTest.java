@@ -1,8 +1,11 @@
+import java.io.IOException;
 import java.lang.reflect.Constructor;
 import java.lang.reflect.Field;
 import java.lang.reflect.Member;
 import java.lang.reflect.Method;
 import java.lang.reflect.Modifier;
+import java.nio.file.Files;
+import java.nio.file.Path;
 import java.util.ArrayList;
 import java.util.List;
 import java.util.Set;
@@ -43,9 +46,10 @@ public final class FaceTest {
         "int cost()",
     };
 
-    public static void main(String[] args) {
+    public static void main(String[] args) throws IOException {
         constants();
         methods();
+        document();
         othersAreHidden();
         ownClasses();
         Check.end("FaceTest");
@@ -91,6 +95,46 @@ public final class FaceTest {
         text.append(' ').append(method.getName()).append('(').append(String.join(", ", kinds)).append(')');
         for (Class<?> kind : method.getExceptionTypes()) text.append(' ').append(kind.getSimpleName());
         return text.toString();
+    }
+
+    /** Each line of the document's face stands in the program, word by word, and in its order; so do its headings. */
+    private static void document() throws IOException {
+        String program = plain(Files.readString(Path.of("src/main/java/Stripboard.java")));
+        String document = Files.readString(Path.of("../shared/DOC.md"));
+        int begin = document.indexOf("```java\n") + 8;
+        int from = 0;
+        int members = 0;
+        for (String line : document.substring(begin, document.indexOf("```", begin)).split("\n")) {
+            String member = plain(line);
+            if (member.equals("}")) continue;
+            String due = member.endsWith(");") || member.contains(") throws ")
+                    ? member.replaceAll(";$", " {") : member;
+            int at = program.indexOf(due, from);
+            Check.due("the program has, behind what is ahead of it in the document: " + due, at >= 0, true);
+            if (at >= 0) from = at + due.length();
+            members++;
+        }
+        Check.due("lines of the face", members, 31);
+        headings(program, document);
+    }
+
+    /** "Ahead of the calls .. the interface says: ---- .." */
+    private static void headings(String program, String document) {
+        int found = 0;
+        for (String line : document.split("\n")) {
+            if (!line.startsWith("Ahead of the calls `")) continue;
+            String first = line.substring(line.indexOf('`') + 1, line.indexOf('`', line.indexOf('`') + 1));
+            String heading = line.substring(line.indexOf("----"), line.length() - 1);
+            int at = program.indexOf("// " + heading + " /**");
+            int call = program.indexOf(" " + first + "(", Math.max(at, 0));
+            Check.due("ahead of " + first + ": " + heading, at >= 0 && call > at && call - at < 200, true);
+            found++;
+        }
+        Check.due("headings", found, 4);
+    }
+
+    private static String plain(String text) {
+        return text.replaceAll("\\s+", " ").trim();
     }
 
     private static void othersAreHidden() {
