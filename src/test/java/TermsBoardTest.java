@@ -1,4 +1,4 @@
-/** The sentences of the terms on faults, what binds, filling, mending and shooting, each with its bounds. */
+/** The sentences of the terms on faults and on what binds, each with its bounds. */
 public final class TermsBoardTest {
     private static final int NONE = Stripboard.NONE;
 
